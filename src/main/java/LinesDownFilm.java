@@ -616,7 +616,7 @@ public final class LinesDownFilm {
 
     /** A part of a machine; its kinds are classes, so that a cast can fail. */
     private abstract static class Part {
-        private final int side;
+        final int side;
 
         Part(int side) {
             this.side = side;
@@ -732,7 +732,7 @@ public final class LinesDownFilm {
     }
 
     private static final class Machine {
-        private final Part[] parts;
+        final Part[] parts;
 
         Machine(Part[] parts) {
             this.parts = parts;
@@ -760,8 +760,8 @@ public final class LinesDownFilm {
         private static final int IN_SHIFT = 7;
         private static final int AT_END = 8;
 
-        private final char[] text = new char[MOST_LETTERS];
-        private int size = 0;
+        final char[] text = new char[MOST_LETTERS];
+        int size = 0;
 
         private final int[] kinds = new int[MOST_PARTS];
         private final int[] sides = new int[MOST_PARTS];
@@ -909,7 +909,7 @@ public final class LinesDownFilm {
 
     /** A print: a row of pictures. Its rows are made once and used again. */
     private static final class Print {
-        private int size = 0;
+        int size = 0;
         private final int[] frames = new int[MOST_PICTURES];
         private final int[] blacks = new int[MOST_PICTURES];
         private final int[] whites = new int[MOST_PICTURES];
@@ -1054,11 +1054,11 @@ public final class LinesDownFilm {
 
     /** What an image keeps: all prints and traces. */
     private static final class Shelf {
-        private final Print[] prints = new Print[MOST_PRINTS];
-        private int printCount = 0;
-        private final int[] traceSides = new int[MOST_TRACES];
-        private final int[] traceRounds = new int[MOST_TRACES];
-        private int traceCount = 0;
+        final Print[] prints = new Print[MOST_PRINTS];
+        int printCount = 0;
+        final int[] traceSides = new int[MOST_TRACES];
+        final int[] traceRounds = new int[MOST_TRACES];
+        int traceCount = 0;
 
         Shelf() {
             for (int i = 0; i < MOST_PRINTS; i++) {
@@ -1168,7 +1168,7 @@ public final class LinesDownFilm {
         private final int[] from = new int[MOST_PRINTS];
         private final int[] best = new int[MOST_PRINTS];
         private int prints = 0;
-        private int least = 0;
+        int least = 0;
 
         void grow(Shelf shelf, int cost) {
             prints = shelf.printCount;
@@ -1232,8 +1232,8 @@ public final class LinesDownFilm {
         private final int[][] onward = new int[MOST_PICTURES][MOST_PRINTS];
         private final int[] chosen = new int[MOST_PICTURES];
         private int prints = 0;
-        private int together = 0;
-        private int leftOut = 0;
+        int together = 0;
+        int leftOut = 0;
 
         void join(Shelf shelf, int n, int cost) {
             prints = shelf.printCount;

@@ -770,6 +770,11 @@ public final class PromiseTests {
         x.mark(0, 8, 1, 0, true);
         // g is 1 by 11, 9 by 10: 89
         due("89 by two", x.gone(0, 18), 89);
+        x.mark(0, 17, 0, 0, false);
+        x.mark(0, 8, 0, 0, true);
+        // g is 1 by 11, 0 by 10: 100
+        due("100 is just too far", x.gone(0, 18), NONE);
+        x.mark(0, 17, 0, 0, true);
         x.clear();
         x.trace(0, 16);
         x.trace(1, 17);
