@@ -1209,12 +1209,15 @@ public final class LinesDownFilm {
             }
             for (int p = 0; p < prints; p++) {
                 if (!comesFrom(p, i)) {
-                    from[i] = p;
-                    choose(i + 1, sum + lacking[i][p]);
+                    goOn(i, p, sum);
                 }
             }
-            from[i] = FROM_NONE;
-            choose(i + 1, sum + lacking[i][FROM_NONE]);
+            goOn(i, FROM_NONE, sum);
+        }
+
+        private void goOn(int i, int p, int sum) {
+            from[i] = p;
+            choose(i + 1, sum + lacking[i][p]);
         }
 
         /** Whether p is i or comes from it, by what is chosen for those ahead of i. */

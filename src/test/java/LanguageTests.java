@@ -93,6 +93,8 @@ public final class LanguageTests {
         for (Method m : c.getDeclaredMethods()) {
             CHECKS.hold("parameters of " + m, m.getParameterCount() <= 7);
             CHECKS.hold("no lambda: " + m, !m.isSynthetic());
+            CHECKS.hold("no private one with a public one's name: " + m, !Modifier.isPrivate(m.getModifiers())
+                || Arrays.stream(METHODS).noneMatch(told -> told.contains(" " + m.getName() + "(")));
         }
     }
 
@@ -104,6 +106,7 @@ public final class LanguageTests {
         }
         CHECKS.hold("no lambda, no method reference", !code.contains("->") && !code.contains("::"));
         CHECKS.hold("signs 1 to 127", source.chars().allMatch(c -> c > 0 && c < 128));
+        recursion(code);
         int length = 0;
         for (String line : code.split("\n")) {
             length = line.matches(" {4,8}[a-z].*\\) \\{") ? 0 : length + 1;
@@ -112,5 +115,23 @@ public final class LanguageTests {
             }
             CHECKS.hold("no line above 120 signs: " + line, line.length() <= 120);
         }
+    }
+
+    /** Rule 8 lets a static method call itself; of others, some call one another. */
+    private static void recursion(String code) {
+        Pattern head = Pattern.compile(" {4,8}((?:[a-z]+ )*)[A-Za-z]+(?:\\[\\])* ([a-z]\\w*)\\(.*\\) \\{");
+        String name = null;
+        int heads = 0;
+        for (String line : code.split("\n")) {
+            Matcher m = head.matcher(line);
+            if (m.matches()) {
+                heads++;
+                name = m.group(1).contains("private static ") ? null : m.group(2);
+            } else if (name != null) {
+                CHECKS.hold(name + " does not call itself",
+                    !Pattern.compile("(?<![\\w.])(?:this\\.)?" + name + "\\(").matcher(line).find());
+            }
+        }
+        CHECKS.hold("methods are found: " + heads, heads > 100);
     }
 }
